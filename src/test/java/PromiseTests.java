@@ -439,6 +439,7 @@ public final class PromiseTests {
         due("year most then like one", moves(14, 20, 9, 15, 5, 8, 9), 14);
         due("year likes by distance", moves(14, 15, 5, 16, 8), 14);
         due("year added", moves(14, 15, 5, 13, 4, 13, 4), 13);
+        due("year added in the first seat", moves(14, 15, 4, 15, 4, 13, 5), 15);
         due("year there stronger", moves(14, 14, 9, 15, 11), 14);
         due("year there weaker", moves(14, 14, 9, 15, 13), 15);
         due("year there alike", moves(14, 14, 9, 15, 12), 14);
@@ -576,6 +577,12 @@ public final class PromiseTests {
         due("route long", snake.route(0, 35, -1), 20);
         due("route long end", snake.route(0, 35, 19), 35);
         due("route long none", snake.route(0, 35, 20), NONE);
+        due("route long back", snake.route(35, 0, -1), 20);
+        due("route long back end", snake.route(35, 0, 19), 0);
+        MossPilots edges = of("#.....", "......", "#....#", "......", "......", "..#...");
+        due("route left edge", edges.route(12, 0, -1), NONE);
+        due("route right edge", edges.route(17, 0, -1), NONE);
+        due("route lower edge", edges.route(32, 0, -1), NONE);
     }
 
     private static void partsOfMarsh() {
@@ -613,6 +620,11 @@ public final class PromiseTests {
         due("least 36", x.least(0, 0, 36, 0), BAD);
         due("least what 2", x.least(0, 0, 0, 2), BAD);
         dueLeast("least nowhere", x, 0, 0, 0, 0, 0);
+        MossPilots wet = new MossPilots();
+        wet.person(PLAIN);
+        wet.person(STRANGER);
+        dueLeast("least in nothing but wet", wet, 0, 0, 0, NONE, NONE);
+        dueLeast("least stranger in the first cell", wet, 1, 0, 0, 1, 0);
         dueLeast("least plain", x, 0, 1, 1, 4, 1);
         dueLeast("least heavy", x, 1, 1, 1, 2, 1);
         dueLeast("least fidget", x, 2, 1, 1, 8, 1);
@@ -624,6 +636,7 @@ public final class PromiseTests {
         dueLeast("least against another", x, 0, 1, 1, 44, 1);
         x.sit(1, 0, 50);
         dueLeast("least against another too far", x, 0, 1, 1, NONE, NONE);
+        x.sit(0, 35, 7);
         dueLeast("least in his place", x, 1, 1, 1, 2, 1);
         due("least changes nothing", x.told(1, 2), 50);
         due("least moss stays", x.moss(0), 0);
@@ -640,6 +653,31 @@ public final class PromiseTests {
         away.person(PLAIN);
         away.sit(1, 3, 10);
         dueLeast("least holds it there by a like one", away, 0, 2, 2, 7, 2);
+        away.sit(1, 0, 0);
+        away.sit(0, 3, 10);
+        dueLeast("least by leaving", away, 0, 2, 2, 0, 0);
+        dueLeast("least for other ends", away, 0, 1, 1, 4, 1);
+        due("least leaves him there", away.told(0, 1), 3);
+        MossPilots first = of(".m....");
+        first.person(PLAIN);
+        first.person(PLAIN);
+        dueLeast("least in the first cell", first, 0, 0, 0, 4, 0);
+        first.sit(1, 1, 95);
+        dueLeast("least of the most hours", first, 0, 0, 0, 99, 0);
+        first.sit(1, 1, 96);
+        dueLeast("least of more than the most", first, 0, 0, 0, NONE, NONE);
+        leastOfOtherEnds();
+    }
+
+    /** One ground, ends that differ by one of both: no answer may stand for another's. */
+    private static void leastOfOtherEnds() {
+        MossPilots x = of("##.#..");
+        x.person(PLAIN);
+        int[][] ends = {{3, 3}, {0, 3}, {0, 1}, {3, 1}, {3, 0}, {1, 0}, {1, 3}, {1, 0}, {1, 1}, {0, 1}, {0, 3}, {0, 0}};
+        for (int[] pair : ends) {
+            int want = (pair[0] == 3) == (pair[1] == 3) ? 0 : NONE;
+            dueLeast("least from " + pair[0] + " to " + pair[1], x, 0, pair[0], pair[1], want, want);
+        }
     }
 
     private static void games() {
@@ -669,6 +707,7 @@ public final class PromiseTests {
         due("game stranger first at", x.game(3, 0, 1, 1, 7, 7, 1), 700);
         due("game stranger second", x.game(0, 3, 1, 1, 0, 0, 0), 36 * 35);
         due("game stranger second at", x.game(0, 3, 1, 1, 0, 0, 1), 1);
+        due("game last cell of the first", x.game(3, 0, 1, 1, 35, 35, 1), 3500);
         due("game changes nobody", x.told(3, 1), NONE);
         due("game changes no cell", x.count(2), 0);
         x.tuft(0);
@@ -693,6 +732,14 @@ public final class PromiseTests {
         due("game no rests", x.game(0, 1, 8, 2, 11, 10, 0), 0);
         due("game no first", x.game(0, 1, 8, 2, 11, 10, 1), NONE);
         due("game too weak to hold", x.game(0, 1, 8, 1, 11, 10, 0) > 0 ? 1 : 0, 1);
+        MossPilots last = new MossPilots();
+        last.tuft(35);
+        for (int person = 0; person < 3; person++) {
+            last.person(PLAIN);
+        }
+        last.sit(2, 29, 10);
+        due("game last cell of the second", last.game(0, 1, 1, 8, 29, 29, 1), 35);
+        due("game last cell alone", last.game(0, 1, 1, 8, 29, 29, 0), 36);
     }
 
     private static void pilotsOfWays() {
@@ -754,6 +801,39 @@ public final class PromiseTests {
         x.year();
         x.restore();
         due("image is a copy", x.told(0, 1), 5);
+        imageOfAll();
+    }
+
+    private static void imageOfAll() {
+        MossPilots x = new MossPilots();
+        x.image();
+        for (int k = 0; k < 6; k++) {
+            x.tuft(k);
+            x.person(HEAVY);
+            x.sit(k, 6 * k, 10 + k);
+        }
+        due("image of six", x.image(), 1);
+        x.year();
+        x.restore();
+        for (int k = 0; k < 6; k++) {
+            due("restore of six moss", x.moss(k), k);
+            due("restore of six cell", x.told(k, 1), 6 * k);
+            due("restore of six counts", x.of(6 * k, 3), 20 + 2 * k);
+            due("restore of six pull", x.pull(6 * k, 0), 20 - k);
+            due("restore of six hours", x.sit(k, 0, 0), 10 + k);
+        }
+        due("restore of six nobody", x.of(1, 3), 0);
+        due("restore of six no seat", x.pull(1, 0), NOT - 1000);
+        MossPilots fewer = new MossPilots();
+        fewer.image();
+        fewer.sit(fewer.person(STRANGER), 3, 9);
+        fewer.year();
+        fewer.sit(0, 4, 9);
+        fewer.restore();
+        due("restore of nobody", fewer.person(PLAIN), 0);
+        due("restored without aches", fewer.told(0, 3), 0);
+        due("restored without hours", fewer.told(0, 2), 0);
+        due("restored without a seat", fewer.told(0, 1), NONE);
     }
 
     private static void sats() {
@@ -832,6 +912,15 @@ public final class PromiseTests {
             due("film", x.film(0, lane, 2), 2);
             due("film matches", x.sat(0, 1, 0, lane, 2), (1L << 36) - 1);
             due("film from there on", x.sat(0, 1, 0, lane, 1), 0);
+            x.item(0, lane, 2, 7);
+            x.item(0, lane, 3, 7);
+            due("film ahead", x.film(0, lane, 0), 2);
+            x.plant(0, 7);
+            x.plant(1, 7);
+            due("film leaves the next", x.sat(0, 1, 0, lane, 2), (1L << 36) - 1);
+            x.plant(0, 35);
+            x.plant(1, 3);
+            x.film(0, lane, 2);
             due("film refused puts nothing", x.film(0, lane, 3), INDEX);
             due("film still matches", x.sat(0, 1, 0, lane, 2), (1L << 36) - 1);
         }
