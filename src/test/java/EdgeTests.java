@@ -1331,6 +1331,7 @@ public final class EdgeTests {
         leastIsTheLeastCell();
         leastIsBehindTheFrost();
         leastOfEachPairOfCells();
+        leastLooksAtAllCellsAndAtNoOther();
     }
 
     private static void leastTakesPeopleCellsAndTwoQuestions() {
@@ -1438,6 +1439,45 @@ public final class EdgeTests {
                 due("least from " + a + " to " + b, x.least(0, a, b, 0), way ? 0 : NONE);
             }
         }
+    }
+
+    /** Two tufts must both be held: from a seat below the lowest row the HEAVY one could do it, or do it sooner. */
+    private static void leastLooksAtAllCellsAndAtNoOther() {
+        Maker none = () -> {
+            MossPilots x = with(HEAVY, 27, 26, 32);
+            people(x, HEAVY, FIDGET);
+            x.sit(1, 31, 18);
+            x.sit(2, 17, 21);
+            return x;
+        };
+        dueLeast("least of the cells that are", none.make(), 27, 32, NONE, NONE);
+        dueLeastAsLived(none, 27, 32);
+        Maker later = () -> {
+            MossPilots x = with(HEAVY, 29, 30, 24);
+            people(x, PLAIN, HEAVY);
+            x.sit(1, 24, 19);
+            x.sit(2, 31, 26);
+            x.drain(8, true);
+            return x;
+        };
+        dueLeast("least of the cells that are, later", later.make(), 30, 24, 29, 33);
+        dueLeastAsLived(later, 30, 24);
+    }
+
+    /** The same told by living each case: sitting so long in each cell, a year, and the way. */
+    private static void dueLeastAsLived(Maker maker, int a, int b) {
+        for (int hours = 0; hours <= 99; hours++) {
+            for (int cell = 0; cell < 36; cell++) {
+                MossPilots x = maker.make();
+                x.sit(0, cell, hours);
+                x.year();
+                if (x.way(a, b) >= 0) {
+                    dueLeast("least as lived", maker.make(), a, b, hours, cell);
+                    return;
+                }
+            }
+        }
+        dueLeast("least as lived", maker.make(), a, b, NONE, NONE);
     }
 
     // ---- promise 20: game

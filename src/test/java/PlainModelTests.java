@@ -1,27 +1,68 @@
 import java.util.ArrayList;
 import java.util.Arrays;
+import java.util.HashSet;
 import java.util.List;
 import java.util.Random;
+import java.util.Set;
 
 /**
- * Runs of calls by chance, from fixed seeds, each answer held against a model that is written as
- * plainly as the document, with other means than the class: no sets of bits, no kept answers.
+ * Runs of 512 calls by chance, from fixed seeds, each answer held against a model that is written as
+ * plainly as the document, with other means than the class: no sets of bits, no kept answers. And
+ * that chance has brought each kind of answer that the document names for each call.
  */
 public final class PlainModelTests {
-    private static final int RUNS = 200;
+    private static final int RUNS = 400;
+    /** More calls on one object are not promised. */
     private static final int CALLS = 512;
+    /** The kinds of answers that must have come; what no run of 512 calls can bring (year: FULL) is left out. */
+    private static final String KINDS = "type: taken BAD FULL; marsh: 0 taken fault; drain: 0 taken BAD; tuft: 0 taken BAD FULL; "
+            + "plant: 0 taken BAD; person: 0 taken BAD FULL; sit: 0 taken BAD; told: 0 taken BAD NONE; of: 0 taken BAD; "
+            + "frost: 0 taken BAD; count: 0 taken BAD; moss: 0 taken BAD; pull: 0 taken below BAD NOT; year: 0 taken; "
+            + "way: 0 taken BAD NONE; route: 0 taken BAD NONE; parts: 0 taken; least: 0 taken BAD NONE; "
+            + "game: 0 taken BAD NONE; pilots: 0 taken BAD NONE; image: taken; restore: taken NONE; "
+            + "sat: 0 taken BAD NULL CAST INDEX; film: 0 taken BAD NULL CAST INDEX; sheet: 0 taken BAD SIZE; "
+            + "drop: 0 taken BAD NULL; item: taken BAD NULL CAST INDEX; copy: 0 taken BAD NULL CAST INDEX";
 
     public static void main(String[] args) {
         int wrong = 0;
         long answers = 0;
+        Set<String> came = new HashSet<>();
         for (int seed = 1; seed <= RUNS; seed++) {
-            int[] tally = new Run(seed).play();
-            answers += tally[0];
-            wrong += tally[1];
+            Run run = new Run(seed, came);
+            wrong += run.play() ? 0 : 1;
+            answers += run.calls;
+        }
+        for (String call : KINDS.split("; ")) {
+            String[] kinds = call.split("[: ]+");
+            for (int k = 1; k < kinds.length; k++) {
+                if (!came.contains(kinds[0] + " " + kinds[k])) {
+                    wrong++;
+                    System.out.println("no run brought " + kinds[0] + " " + kinds[k]);
+                }
+            }
         }
         System.out.println(answers + " answers in " + RUNS + " runs, " + wrong + " wrong");
         if (wrong != 0) {
             System.exit(1);
+        }
+    }
+
+    private static String kindOf(String call, long answer) {
+        if (answer >= 0) {
+            return answer == 0 ? "0" : "taken";
+        }
+        if (call.equals("pull")) {
+            return answer == -1001 ? "BAD" : answer == -1002 ? "NOT" : "below";
+        }
+        switch ((int) answer) {
+            case -1: return "BAD";
+            case -3: return "FULL";
+            case -4: return "NONE";
+            case -11: return "NULL";
+            case -12: return "CAST";
+            case -13: return "INDEX";
+            case -14: return "SIZE";
+            default: return call.equals("marsh") ? "fault" : "other";
         }
     }
 
@@ -32,33 +73,37 @@ public final class PlainModelTests {
         private final MossPilots real = new MossPilots();
         private final Model model = new Model();
         private final StringBuilder told = new StringBuilder();
+        private final Set<String> came;
+        private int calls;
 
-        Run(int seed) {
+        Run(int seed, Set<String> came) {
             this.seed = seed;
             this.chance = new Random(seed);
+            this.came = came;
         }
 
-        int[] play() {
+        /** Whether all answers were as due. */
+        boolean play() {
             if (chance.nextInt(4) > 0) {
                 for (int k = 0; k < 6; k++) {
                     if (!same("person", chance.nextInt(4))) {
-                        return new int[] {k, 1};
+                        return false;
                     }
                 }
             }
-            for (int k = 0; k < CALLS - 20; k++) {
+            while (calls < CALLS) {
                 if (!step()) {
-                    return new int[] {k, 1};
+                    return false;
                 }
             }
-            return new int[] {CALLS, 0};
+            return true;
         }
 
         private boolean step() {
             int kind = chance.nextInt(100);
-            if (kind < 9) {
+            if (kind < 4) {
                 return text();
-            } else if (kind < 12) {
+            } else if (kind < 9) {
                 return same("drain", cell(), chance.nextInt(3) > 0 ? 1 : 0);
             } else if (kind < 15) {
                 return same("tuft", cell());
@@ -101,35 +146,38 @@ public final class PlainModelTests {
         }
 
         private boolean paths() {
+            int a = chance.nextInt(20) == 0 ? cell() : onFoot();
+            int b = chance.nextInt(20) == 0 ? cell() : chance.nextInt(4) == 0 ? near(a) : onFoot();
             switch (chance.nextInt(5)) {
                 case 0:
-                    return same("way", cell(), cell());
+                    return same("way", a, b);
                 case 1:
-                    return same("route", cell(), cell(), chance.nextInt(12) - 1);
+                    return same("route", a, b, chance.nextInt(12) - 1);
                 case 2:
-                    int a = cell();
-                    int b = cell();
-                    for (int i = -1; i < 12; i++) {
+                    for (int i = -1; i < 35; i++) {
                         if (!same("route", a, b, i)) {
                             return false;
+                        }
+                        if (model.route(a, b, i) < 0) {
+                            break;
                         }
                     }
                     return true;
                 case 3:
                     return same("parts");
                 default:
-                    return same("pilots", cell(), cell());
+                    return same("pilots", a, b);
             }
         }
 
         private boolean searches() {
-            int a = cell();
-            int b = chance.nextInt(3) == 0 ? cell() : near(a);
+            int a = chance.nextInt(3) == 0 ? cell() : near(onFoot());
+            int b = chance.nextInt(3) == 0 ? onFoot() : near(a);
             if (chance.nextInt(3) == 0) {
                 int one = small(6);
                 int other = small(6);
-                int hoursOne = hours();
-                int hoursOther = hours();
+                int hoursOne = 1 + hours();
+                int hoursOther = 1 + hours();
                 return same("game", one, other, hoursOne, hoursOther, a, b, 0)
                         && same("game", one, other, hoursOne, hoursOther, a, b, small(2));
             }
@@ -138,26 +186,32 @@ public final class PlainModelTests {
         }
 
         private boolean sheets() {
-            int sheet = small(4);
-            int lane = chance.nextInt(4) == 0 ? small(3) : model.laneOf(sheet);
+            int sheet = held();
+            int lane = chance.nextInt(5) == 0 ? small(3) : model.laneOf(sheet);
             switch (chance.nextInt(10)) {
                 case 0:
-                case 1:
                     return same("sheet", small(4), small(3), chance.nextInt(20) == 0 ? wild() : chance.nextInt(19) - 1);
+                case 1:
+                    return chance.nextInt(3) > 0 ? same("sheet", held(), lane, 16) : same("drop", small(4));
                 case 2:
                 case 3:
                     return same("film", sheet, lane, small(12));
                 case 4:
-                    return chance.nextInt(3) > 0 || same("drop", small(4));
-                case 5:
                     return same("item", sheet, lane, small(16), chance.nextInt(3) == 0 ? chance.nextLong() : cell());
+                case 5:
                 case 6:
-                    return same("copy", small(4), small(8), small(4), small(8), small(8));
+                    return copies(sheet);
                 case 7:
                     return looking(sheet, lane);
                 default:
                     return same("sat", small(6), hours(), sheet, lane, small(12));
             }
+        }
+
+        /** One row is moved within itself or to another; what came where is asked with the next "sat". */
+        private boolean copies(int from) {
+            int to = chance.nextInt(3) == 0 ? from : held();
+            return same("copy", from, small(10), to, small(10), small(8));
         }
 
         /** The tufts as they are behind the year come to a sheet, and all is asked back. */
@@ -170,10 +224,11 @@ public final class PlainModelTests {
 
         private boolean text() {
             StringBuilder text = new StringBuilder();
-            String signs = chance.nextInt(3) == 0 ? "..#.m" : chance.nextBoolean() ? "#" + "#.##......." : "......#";
+            String signs = new String[] {"..#..", "##.##.......", "......#", "......."}[chance.nextInt(4)];
+            int mosses = new int[] {6, 12, 40}[chance.nextInt(3)];
             for (int k = 0; k < 41; k++) {
                 char sign = k % 7 == 6 ? '/' : signs.charAt(chance.nextInt(signs.length()));
-                text.append(chance.nextInt(40) == 0 ? " " : "").append(k % 7 != 6 && chance.nextInt(9) == 0 ? 'm' : sign);
+                text.append(chance.nextInt(40) == 0 ? " " : "").append(k % 7 != 6 && chance.nextInt(mosses) == 0 ? 'm' : sign);
             }
             if (chance.nextInt(6) == 0) {
                 text.setCharAt(chance.nextInt(text.length()), "x/. m#".charAt(chance.nextInt(6)));
@@ -184,6 +239,10 @@ public final class PlainModelTests {
             if (chance.nextInt(8) == 0) {
                 text.append(" . /#m".charAt(chance.nextInt(6)));
             }
+            return typed(text) && (chance.nextInt(12) == 0 || same("marsh"));
+        }
+
+        private boolean typed(StringBuilder text) {
             for (int at = 0; at < text.length();) {
                 int n = Math.min(1 + chance.nextInt(8), text.length() - at);
                 long w = chance.nextInt(30) == 0 ? chance.nextLong() : 0;
@@ -191,15 +250,43 @@ public final class PlainModelTests {
                     w = w << 8 | text.charAt(at + k);
                 }
                 at += n;
+                if (chance.nextInt(60) == 0) {
+                    long odd = w | 1L << chance.nextInt(64);
+                    if (!same("type", odd, n) || !same("type", w, chance.nextBoolean() ? small(9) : wild())) {
+                        return false;
+                    }
+                }
                 if (!same("type", w, n)) {
                     return false;
                 }
             }
-            return chance.nextInt(12) == 0 || same("marsh");
+            return true;
         }
 
         private int cell() {
             return chance.nextInt(60) == 0 ? wild() : chance.nextInt(36);
+        }
+
+        /** A cell on which one can walk, if there is one and chance will have it. */
+        private int onFoot() {
+            int at = chance.nextInt(36);
+            for (int k = 0; k < 36 && chance.nextInt(80) > 0; k++) {
+                if (model.walk((at + k) % 36)) {
+                    return (at + k) % 36;
+                }
+            }
+            return cell();
+        }
+
+        /** A sheet that holds a row, if there is one and chance will have it. */
+        private int held() {
+            int at = chance.nextInt(4);
+            for (int k = 0; k < 4 && chance.nextInt(40) > 0; k++) {
+                if (model.sheets[(at + k) % 4] != null) {
+                    return (at + k) % 4;
+                }
+            }
+            return small(4);
         }
 
         private int near(int cell) {
@@ -226,6 +313,10 @@ public final class PlainModelTests {
         }
 
         private boolean same(String call, long... args) {
+            if (calls == CALLS) {
+                return true;
+            }
+            calls++;
             if (told.length() > 0) {
                 told.append("; ");
             }
@@ -242,6 +333,7 @@ public final class PlainModelTests {
                 System.out.println("seed " + seed + ": " + call + Arrays.toString(args) + " answered " + got
                         + ", due is " + want + " behind " + told);
             }
+            came.add(call + " " + kindOf(call, want));
             return got == want;
         }
 
